@@ -28,17 +28,14 @@ public final class DelegationShop {
     private static final int METHOD_SLOT = 1;
     private static final int PARENT = 2;
 
-    private final byte[] tape = new byte[TAPE_MOST];
-    // The text in use, and another for the next reading: a faulty text must leave the one in use as it is.
-    private Text text = new Text();
-    private Text spare = new Text();
-    private final Compiler compiler = new Compiler(tape, spare);
-    private final World world = new World();
-    private final Sites sites = new Sites();
-    private final Words words = new Words();
-    private final Journal journal = new Journal();
-    private final Machine machine = new Machine(world, sites, words, journal, text);
-    private int tapeLength;
+    private final Compiler compiler = new Compiler();
+    private final Machine machine = new Machine();
+    private final Tape tape = compiler.tape;
+    private final World world = machine.world;
+    private final Sites sites = machine.sites;
+    private final Words words = machine.words;
+    private final Journal journal = machine.journal;
+    private Text text = machine.text;
     private boolean loaded;
 
     public DelegationShop() {
@@ -47,37 +44,34 @@ public final class DelegationShop {
     // ---- text
 
     public int feed(int a, int b, int c, int d, int e) throws UnsupportedOperationException {
-        if (tapeLength + 20 > TAPE_MOST) {
+        if (tape.length + 20 > TAPE_MOST) {
             throw new UnsupportedOperationException("the tape is full");
         }
-        putFour(a);
-        putFour(b);
-        putFour(c);
-        putFour(d);
-        putFour(e);
-        return tapeLength;
+        tape.putFour(a);
+        tape.putFour(b);
+        tape.putFour(c);
+        tape.putFour(d);
+        tape.putFour(e);
+        return tape.length;
     }
 
     public void end(int n) throws IllegalArgumentException {
-        if (n < 0 || n > tapeLength) {
+        if (n < 0 || n > tape.length) {
             throw new IllegalArgumentException("the tape has not so many bytes");
         }
-        tapeLength = n;
+        tape.length = n;
     }
 
     public int load() {
-        int length = tapeLength;
-        tapeLength = 0;
-        if (!compiler.translate(spare, length)) {
-            return -1 - compiler.faultPlace();
+        boolean fits = compiler.translate();
+        tape.length = 0;
+        if (!fits) {
+            return -1 - tape.place;
         }
         Text old = text;
-        text = spare;
-        spare = old;
-        world.clear();
-        sites.clear();
-        words.clear();
-        journal.clear();
+        text = compiler.text;
+        compiler.text = old;
+        machine.clear(text);
         loaded = true;
         return text.methods;
     }
@@ -101,7 +95,7 @@ public final class DelegationShop {
         if (m < 0 || m >= text.methods || text.methodParameters[m] != 2) {
             throw new IllegalArgumentException("no such method of two parameters");
         }
-        return machine.perform(text, m, a, b);
+        return machine.perform(m, a, b);
     }
 
     public long latest(int what) throws IllegalStateException, IllegalArgumentException {
@@ -290,13 +284,6 @@ public final class DelegationShop {
         return sites.countAstray(world);
     }
 
-    private void putFour(int number) {
-        for (int shift = 24; shift >= 0 && tapeLength < TAPE_MOST; shift -= 8) {
-            tape[tapeLength] = (byte) (number >> shift);
-            tapeLength++;
-        }
-    }
-
     private void needText() {
         if (!loaded) {
             throw new IllegalStateException("no text was loaded");
@@ -322,8 +309,8 @@ public final class DelegationShop {
         needIndex(k, sites.entriesOf(i));
     }
 
-    /** Reads tokens off the tape, one at a time: the fault of a text is always at the token that stands here. */
-    private static final class Lexer {
+    /** The tape, and its tokens: the fault of a text is always at the token that stands here when it shows. */
+    private static final class Tape {
         private static final int END = 0;
         private static final int BAD = 1;
         private static final int WORD = 2;
@@ -362,17 +349,21 @@ public final class DelegationShop {
         private static final int WORD_MOST = 8;
         private static final int NUMERAL_MOST = 9;
 
-        private final byte[] tape;
-        private final long[] keywords = new long[KEYWORDS];
+        private final byte[] bytes = new byte[TAPE_MOST];
         private int length;
+        private final long[] keywords = new long[KEYWORDS];
+        private final int[] kinds = new int[TAPE_MOST + 1];
+        private final int[] places = new int[TAPE_MOST + 1];
+        private final long[] values = new long[TAPE_MOST + 1];
+        private int tokens;
+
+        // The token that stands here; its value is that of a numeral, or the letters of a word, packed.
         private int at;
         private int kind;
         private int place;
-        private long word;
-        private int number;
+        private long value;
 
-        private Lexer(byte[] tape) {
-            this.tape = tape;
+        private Tape() {
             int k = 0;
             for (int i = 0; i < KEYWORD_TEXT.length() && k < KEYWORDS; i++) {
                 char c = KEYWORD_TEXT.charAt(i);
@@ -384,57 +375,53 @@ public final class DelegationShop {
             }
         }
 
-        private void start(int n) {
-            length = Math.max(0, Math.min(n, tape.length));
-            at = 0;
-            advance();
-        }
-
-        private void advance() {
-            at = behindBlanks(at);
-            place = at;
-            if (at >= length) {
-                kind = END;
-                return;
-            }
-            int c = tape[at];
-            if (isLetter(c)) {
-                readWord();
-            } else if (isDigit(c)) {
-                readNumeral();
-            } else {
-                readSign(c);
+        private void putFour(int number) {
+            for (int shift = 24; shift >= 0 && length < TAPE_MOST; shift -= 8) {
+                bytes[length] = (byte) (number >> shift);
+                length++;
             }
         }
 
-        /** Whether the sign = (and not ==) stands behind the token that stands here. */
-        private boolean assignFollows() {
-            int i = behindBlanks(at);
-            if (i >= length || tape[i] != '=') {
-                return false;
+        private void readTokens() {
+            tokens = 0;
+            int i = 0;
+            for (int n = 0; n < TAPE_MOST && i < length; n++) {
+                int c = bytes[i];
+                if (isLetter(c)) {
+                    i = readWord(i);
+                } else if (isDigit(c)) {
+                    i = readNumeral(i);
+                } else if (c == 10 || c == 32) {
+                    i++;
+                } else {
+                    i = readSign(i);
+                }
             }
-            return i + 1 >= length || tape[i + 1] != '=';
+            addToken(END, length, 0);
+            standAt(0);
         }
 
-        private int behindBlanks(int from) {
-            int i = from;
-            while (i < length && (tape[i] == 10 || tape[i] == 32)) {
+        private void addToken(int itsKind, int itsPlace, long itsValue) {
+            if (tokens <= TAPE_MOST) {
+                kinds[tokens] = itsKind;
+                places[tokens] = itsPlace;
+                values[tokens] = itsValue;
+                tokens++;
+            }
+        }
+
+        private int readWord(int first) {
+            int i = first;
+            long word = 0;
+            while (i < length && isLetter(bytes[i])) {
+                word = withLetter(word, bytes[i]);
                 i++;
             }
+            addToken(i - first > WORD_MOST ? BAD : kindOfWord(word), first, word);
             return i;
         }
 
-        private void readWord() {
-            int first = at;
-            word = 0;
-            while (at < length && isLetter(tape[at])) {
-                word = withLetter(word, tape[at]);
-                at++;
-            }
-            kind = at - first > WORD_MOST ? BAD : kindOfWord();
-        }
-
-        private int kindOfWord() {
+        private int kindOfWord(long word) {
             for (int k = 0; k < KEYWORDS; k++) {
                 if (keywords[k] == word) {
                     return METHOD + k;
@@ -443,27 +430,43 @@ public final class DelegationShop {
             return WORD;
         }
 
-        private void readNumeral() {
-            int first = at;
-            number = 0;
-            while (at < length && isDigit(tape[at])) {
-                number = number * 10 + (tape[at] - '0');
-                at++;
+        private int readNumeral(int first) {
+            int i = first;
+            long number = 0;
+            while (i < length && isDigit(bytes[i])) {
+                number = number * 10 + (bytes[i] - '0');
+                i++;
             }
-            kind = at - first > NUMERAL_MOST ? BAD : NUMERAL;
+            addToken(i - first > NUMERAL_MOST ? BAD : NUMERAL, first, number);
+            return i;
         }
 
-        private void readSign(int c) {
-            if (c <= 0 || SIGNS.indexOf((char) c) < 0) {
-                kind = BAD;
-                return;
+        private int readSign(int i) {
+            int c = bytes[i];
+            if (c == '=' && i + 1 < length && bytes[i + 1] == '=') {
+                addToken(EQUAL, i, 0);
+                return i + 2;
             }
-            at++;
-            kind = c;
-            if (c == '=' && at < length && tape[at] == '=') {
-                at++;
-                kind = EQUAL;
+            addToken(c > 0 && SIGNS.indexOf((char) c) >= 0 ? c : BAD, i, 0);
+            return i + 1;
+        }
+
+        private void standAt(int token) {
+            if (token < tokens) {
+                at = token;
+                kind = kinds[token];
+                place = places[token];
+                value = values[token];
             }
+        }
+
+        private void advance() {
+            standAt(at + 1);
+        }
+
+        /** Whether the sign = (and not ==) stands behind the token that stands here. */
+        private boolean assignFollows() {
+            return at + 1 < tokens && kinds[at + 1] == '=';
         }
 
         private static long withLetter(long word, int letter) {
@@ -651,7 +654,7 @@ public final class DelegationShop {
 
         private int letterOfName(int x, int k) {
             int letters = 0;
-            while (letters < Lexer.WORD_MOST && nameWord[x] >> (5 * letters) != 0) {
+            while (letters < Tape.WORD_MOST && nameWord[x] >> (5 * letters) != 0) {
                 letters++;
             }
             if (k < 0 || k >= letters) {
@@ -668,25 +671,19 @@ public final class DelegationShop {
         private static final int ABOVE_SITE = 1;
         private static final int SET_SITE = 2;
 
-        private final Lexer lexer;
-        private Text text;
-        private Code code;
+        private final Tape tape = new Tape();
+        // The text that is being written: never the one in use, which a faulty text must leave as it is.
+        private Text text = new Text();
+        private Code code = text.code;
         private final long[] words = new long[SCOPES_MOST * WORDS_MOST];
         private final int[] declared = new int[SCOPES_MOST];
         private int level;
         private int method;
 
-        private Compiler(byte[] tape, Text target) {
-            lexer = new Lexer(tape);
-            text = target;
-            code = target.code;
-        }
-
-        private boolean translate(Text target, int length) {
-            text = target;
-            code = target.code;
+        private boolean translate() {
+            code = text.code;
             text.clear();
-            lexer.start(length);
+            tape.readTokens();
             try {
                 readText();
             } catch (IllegalStateException refused) {
@@ -695,52 +692,44 @@ public final class DelegationShop {
             return true;
         }
 
-        private int faultPlace() {
-            return lexer.place;
-        }
-
-        private static void refuse() {
-            throw new IllegalStateException("no text goes on with this token");
-        }
-
-        private void need(boolean fits) {
+        private static void need(boolean fits) {
             if (!fits) {
-                refuse();
+                throw new IllegalStateException("no text goes on with this token");
             }
         }
 
         private void pass(int kind) {
-            need(lexer.kind == kind);
-            lexer.advance();
+            need(tape.kind == kind);
+            tape.advance();
         }
 
         private void passOpening(int sign, int depth) {
-            need(lexer.kind == sign && depth < OPEN_MOST);
-            lexer.advance();
+            need(tape.kind == sign && depth < OPEN_MOST);
+            tape.advance();
         }
 
         private void readText() {
             for (int m = 0; m <= METHODS_MOST; m++) {
                 readMethod();
-                if (lexer.kind == Lexer.END) {
+                if (tape.kind == Tape.END) {
                     return;
                 }
             }
         }
 
         private void readMethod() {
-            need(lexer.kind == Lexer.METHOD && text.methods < METHODS_MOST);
-            lexer.advance();
-            need(lexer.kind == Lexer.WORD && text.methodOf(lexer.word) < 0);
+            need(tape.kind == Tape.METHOD && text.methods < METHODS_MOST);
+            tape.advance();
+            need(tape.kind == Tape.WORD && text.methodOf(tape.value) < 0);
             method = text.methods;
-            text.methodWord[method] = lexer.word;
+            text.methodWord[method] = tape.value;
             text.methodStart[method] = code.size;
             text.methods++;
             level = 0;
             declared[0] = 0;
-            lexer.advance();
+            tape.advance();
             passOpening('(', 0);
-            text.methodParameters[method] = lexer.kind == ')' ? 0 : readParameters();
+            text.methodParameters[method] = tape.kind == ')' ? 0 : readParameters();
             pass(')');
             readBody(0);
             code.put(Code.END, 0);
@@ -752,19 +741,19 @@ public final class DelegationShop {
             while (more && n <= ARGUMENTS_MOST) {
                 need(n < ARGUMENTS_MOST);
                 needNewWord();
-                declare(lexer.word);
-                lexer.advance();
+                declare(tape.value);
+                tape.advance();
                 n++;
-                more = lexer.kind == ',';
+                more = tape.kind == ',';
                 if (more) {
-                    lexer.advance();
+                    tape.advance();
                 }
             }
             return n;
         }
 
         private void needNewWord() {
-            need(lexer.kind == Lexer.WORD && declared[level] < WORDS_MOST && indexIn(level, lexer.word) < 0);
+            need(tape.kind == Tape.WORD && declared[level] < WORDS_MOST && indexIn(level, tape.value) < 0);
         }
 
         private int declare(long word) {
@@ -800,46 +789,46 @@ public final class DelegationShop {
         }
 
         private void readStatements(int close, int depth) {
-            for (int n = 0; n < TAPE_MOST && lexer.kind != close; n++) {
+            for (int n = 0; n < TAPE_MOST && tape.kind != close; n++) {
                 readStatement(depth);
             }
             pass(close);
         }
 
         private void readStatement(int depth) {
-            int kind = lexer.kind;
-            int start = code.put(Code.STEP, lexer.place);
+            int kind = tape.kind;
+            int start = code.put(Code.STEP, tape.place);
             switch (kind) {
-                case Lexer.VAR:
+                case Tape.VAR:
                     readVar(depth);
                     return;
-                case Lexer.SET:
+                case Tape.SET:
                     readSet(depth);
                     return;
-                case Lexer.ADD:
-                case Lexer.GIVE:
-                case Lexer.DROP:
+                case Tape.ADD:
+                case Tape.GIVE:
+                case Tape.DROP:
                     readSlotChange(kind, depth);
                     return;
-                case Lexer.LINK:
-                case Lexer.UNLINK:
+                case Tape.LINK:
+                case Tape.UNLINK:
                     readParentChange(kind, depth);
                     return;
-                case Lexer.IF:
+                case Tape.IF:
                     readIf(depth);
                     return;
-                case Lexer.WHILE:
+                case Tape.WHILE:
                     readWhile(start, depth);
                     return;
-                case Lexer.RETURN:
-                case Lexer.ANSWER:
-                case Lexer.WRITE:
+                case Tape.RETURN:
+                case Tape.ANSWER:
+                case Tape.WRITE:
                     readLeaving(kind, depth);
                     return;
-                case Lexer.FAIL:
+                case Tape.FAIL:
                     readFail(depth);
                     return;
-                case Lexer.GUARD:
+                case Tape.GUARD:
                     readGuard(depth);
                     return;
                 default:
@@ -848,10 +837,10 @@ public final class DelegationShop {
         }
 
         private void readVar(int depth) {
-            lexer.advance();
+            tape.advance();
             needNewWord();
-            long word = lexer.word;
-            lexer.advance();
+            long word = tape.value;
+            tape.advance();
             pass('=');
             readExp(depth);
             pass(';');
@@ -859,10 +848,10 @@ public final class DelegationShop {
         }
 
         private void readPlain(int depth) {
-            if (lexer.kind == Lexer.WORD && lexer.assignFollows()) {
-                int reached = reach(lexer.word);
+            if (tape.kind == Tape.WORD && tape.assignFollows()) {
+                int reached = reach(tape.value);
                 need(reached >= 0);
-                lexer.advance();
+                tape.advance();
                 pass('=');
                 readExp(depth);
                 code.put(Code.KEEP, reached);
@@ -874,7 +863,7 @@ public final class DelegationShop {
         }
 
         private void readSet(int depth) {
-            lexer.advance();
+            tape.advance();
             readExp(depth);
             pass(',');
             int site = readSite(SET_SITE);
@@ -885,20 +874,20 @@ public final class DelegationShop {
         }
 
         private void readSlotChange(int kind, int depth) {
-            lexer.advance();
+            tape.advance();
             readExp(depth);
             pass(',');
             int name = readName();
-            if (kind == Lexer.ADD) {
+            if (kind == Tape.ADD) {
                 pass('=');
                 readExp(depth);
                 code.put(Code.ADD, name);
-            } else if (kind == Lexer.GIVE) {
+            } else if (kind == Tape.GIVE) {
                 pass(',');
-                need(lexer.kind == Lexer.WORD);
-                int given = text.methodOf(lexer.word);
+                need(tape.kind == Tape.WORD);
+                int given = text.methodOf(tape.value);
                 need(given >= 0);
-                lexer.advance();
+                tape.advance();
                 code.put(Code.GIVE, given * 128 + name);
             } else {
                 code.put(Code.DROP, name);
@@ -907,21 +896,21 @@ public final class DelegationShop {
         }
 
         private void readParentChange(int kind, int depth) {
-            lexer.advance();
+            tape.advance();
             readExp(depth);
             pass(',');
             readExp(depth);
             pass(';');
-            code.put(kind == Lexer.LINK ? Code.LINK : Code.UNLINK, 0);
+            code.put(kind == Tape.LINK ? Code.LINK : Code.UNLINK, 0);
         }
 
         private void readIf(int depth) {
-            lexer.advance();
+            tape.advance();
             readExp(depth);
             int skip = code.put(Code.UNLESS, 0);
             readBody(depth);
-            if (lexer.kind == Lexer.ELSE) {
-                lexer.advance();
+            if (tape.kind == Tape.ELSE) {
+                tape.advance();
                 int end = code.put(Code.JUMP, 0);
                 code.landHere(skip);
                 readBody(depth);
@@ -932,7 +921,7 @@ public final class DelegationShop {
         }
 
         private void readWhile(int start, int depth) {
-            lexer.advance();
+            tape.advance();
             readExp(depth);
             int end = code.put(Code.UNLESS, 0);
             readBody(depth);
@@ -942,23 +931,23 @@ public final class DelegationShop {
         }
 
         private void readLeaving(int kind, int depth) {
-            lexer.advance();
+            tape.advance();
             readExp(depth);
             pass(';');
-            if (kind == Lexer.WRITE) {
+            if (kind == Tape.WRITE) {
                 code.put(Code.WRITE, 0);
             } else {
-                code.put(kind == Lexer.RETURN && level > 0 ? Code.RETURN : Code.ANSWER, 0);
+                code.put(kind == Tape.RETURN && level > 0 ? Code.RETURN : Code.ANSWER, 0);
             }
         }
 
         private void readFail(int depth) {
-            lexer.advance();
-            need(lexer.kind == Lexer.NUMERAL && lexer.number >= 20 && lexer.number <= 99);
-            int kind = lexer.number;
-            lexer.advance();
-            if (lexer.kind == ',') {
-                lexer.advance();
+            tape.advance();
+            need(tape.kind == Tape.NUMERAL && tape.value >= 20 && tape.value <= 99);
+            int kind = (int) tape.value;
+            tape.advance();
+            if (tape.kind == ',') {
+                tape.advance();
                 readExp(depth);
             } else {
                 code.put(Code.NOTHING, 0);
@@ -968,17 +957,17 @@ public final class DelegationShop {
         }
 
         private void readGuard(int depth) {
-            lexer.advance();
+            tape.advance();
             int guard = code.newGuard();
             code.put(Code.GUARD, guard);
             readBody(depth);
             code.put(Code.LEAVE, guard);
-            need(lexer.kind == Lexer.ON || lexer.kind == Lexer.ENSURE);
-            for (int n = 0; n < TAPE_MOST && lexer.kind == Lexer.ON; n++) {
+            need(tape.kind == Tape.ON || tape.kind == Tape.ENSURE);
+            for (int n = 0; n < TAPE_MOST && tape.kind == Tape.ON; n++) {
                 readOn(guard, depth);
             }
-            if (lexer.kind == Lexer.ENSURE) {
-                lexer.advance();
+            if (tape.kind == Tape.ENSURE) {
+                tape.advance();
                 code.guardEnsure[guard] = code.size;
                 readBody(depth);
                 code.put(Code.LEFT, guard);
@@ -987,22 +976,22 @@ public final class DelegationShop {
         }
 
         private void readOn(int guard, int depth) {
-            lexer.advance();
-            need(lexer.kind == Lexer.NUMERAL && lexer.number <= 99);
-            int kind = lexer.number;
-            lexer.advance();
+            tape.advance();
+            need(tape.kind == Tape.NUMERAL && tape.value <= 99);
+            int kind = (int) tape.value;
+            tape.advance();
             needNewWord();
-            code.newOn(guard, kind, declare(lexer.word));
-            lexer.advance();
+            code.newOn(guard, kind, declare(tape.value));
+            tape.advance();
             readBody(depth);
             code.put(Code.LEAVE, guard);
         }
 
         private void readExp(int depth) {
             readSum(depth);
-            int order = comparison(lexer.kind);
+            int order = comparison(tape.kind);
             if (order >= 0) {
-                lexer.advance();
+                tape.advance();
                 readSum(depth);
                 code.put(order, 0);
             }
@@ -1014,7 +1003,7 @@ public final class DelegationShop {
                     return Code.LESS;
                 case '>':
                     return Code.MORE;
-                case Lexer.EQUAL:
+                case Tape.EQUAL:
                     return Code.SAME;
                 default:
                     return -1;
@@ -1023,9 +1012,9 @@ public final class DelegationShop {
 
         private void readSum(int depth) {
             readProduct(depth);
-            for (int n = 0; n < TAPE_MOST && (lexer.kind == '+' || lexer.kind == '-'); n++) {
-                int order = lexer.kind == '+' ? Code.PLUS : Code.MINUS;
-                lexer.advance();
+            for (int n = 0; n < TAPE_MOST && (tape.kind == '+' || tape.kind == '-'); n++) {
+                int order = tape.kind == '+' ? Code.PLUS : Code.MINUS;
+                tape.advance();
                 readProduct(depth);
                 code.put(order, 0);
             }
@@ -1033,9 +1022,9 @@ public final class DelegationShop {
 
         private void readProduct(int depth) {
             readUnary(depth);
-            for (int n = 0; n < TAPE_MOST && (lexer.kind == '*' || lexer.kind == '/' || lexer.kind == '%'); n++) {
-                int order = lexer.kind == '*' ? Code.TIMES : lexer.kind == '/' ? Code.DIVIDE : Code.REST;
-                lexer.advance();
+            for (int n = 0; n < TAPE_MOST && (tape.kind == '*' || tape.kind == '/' || tape.kind == '%'); n++) {
+                int order = tape.kind == '*' ? Code.TIMES : tape.kind == '/' ? Code.DIVIDE : Code.REST;
+                tape.advance();
                 readUnary(depth);
                 code.put(order, 0);
             }
@@ -1043,9 +1032,9 @@ public final class DelegationShop {
 
         private void readUnary(int depth) {
             int signs = 0;
-            while (signs < TAPE_MOST && lexer.kind == '-') {
+            while (signs < TAPE_MOST && tape.kind == '-') {
                 signs++;
-                lexer.advance();
+                tape.advance();
             }
             readChain(depth);
             for (int n = 0; n < signs; n++) {
@@ -1055,11 +1044,11 @@ public final class DelegationShop {
 
         private void readChain(int depth) {
             readPrimary(depth);
-            for (int n = 0; n < TAPE_MOST && (lexer.kind == '.' || lexer.kind == '!'); n++) {
-                if (lexer.kind == '.') {
+            for (int n = 0; n < TAPE_MOST && (tape.kind == '.' || tape.kind == '!'); n++) {
+                if (tape.kind == '.') {
                     readMessage(MESSAGE_SITE, depth);
                 } else {
-                    lexer.advance();
+                    tape.advance();
                     code.put(Code.CALL, readArguments(depth));
                 }
             }
@@ -1068,21 +1057,21 @@ public final class DelegationShop {
         private void readMessage(int siteKind, int depth) {
             pass('.');
             int site = readSite(siteKind);
-            int many = lexer.kind == '(' ? readArguments(depth) : 0;
+            int many = tape.kind == '(' ? readArguments(depth) : 0;
             code.put(siteKind == ABOVE_SITE ? Code.ABOVE : Code.SEND, site * 8 + many);
         }
 
         private int readArguments(int depth) {
             passOpening('(', depth);
             int n = 0;
-            boolean more = lexer.kind != ')';
+            boolean more = tape.kind != ')';
             while (more && n <= ARGUMENTS_MOST) {
                 need(n < ARGUMENTS_MOST);
                 readExp(depth + 1);
                 n++;
-                more = lexer.kind == ',';
+                more = tape.kind == ',';
                 if (more) {
-                    lexer.advance();
+                    tape.advance();
                 }
             }
             pass(')');
@@ -1091,7 +1080,7 @@ public final class DelegationShop {
 
         private int readSite(int kind) {
             need(text.sites < SITES_MOST);
-            int place = lexer.place;
+            int place = tape.place;
             int name = readName();
             int site = text.sites;
             text.siteKind[site] = kind;
@@ -1102,25 +1091,25 @@ public final class DelegationShop {
         }
 
         private int readName() {
-            need(lexer.kind == Lexer.WORD);
-            int name = text.nameOf(lexer.word);
+            need(tape.kind == Tape.WORD);
+            int name = text.nameOf(tape.value);
             need(name >= 0);
-            lexer.advance();
+            tape.advance();
             return name;
         }
 
         private void readPrimary(int depth) {
-            switch (lexer.kind) {
-                case Lexer.CLONE:
-                    lexer.advance();
+            switch (tape.kind) {
+                case Tape.CLONE:
+                    tape.advance();
                     readInner(depth);
                     code.put(Code.CLONE, 0);
                     return;
                 case '(':
                     readInner(depth);
                     return;
-                case Lexer.ABOVE:
-                    lexer.advance();
+                case Tape.ABOVE:
+                    tape.advance();
                     code.put(Code.SELF, 0);
                     readMessage(ABOVE_SITE, depth);
                     return;
@@ -1139,31 +1128,31 @@ public final class DelegationShop {
         }
 
         private void readAtom() {
-            switch (lexer.kind) {
-                case Lexer.NUMERAL:
-                    code.put(Code.NUM, lexer.number);
+            switch (tape.kind) {
+                case Tape.NUMERAL:
+                    code.put(Code.NUM, (int) tape.value);
                     break;
-                case Lexer.NIL:
+                case Tape.NIL:
                     code.put(Code.NOTHING, 0);
                     break;
-                case Lexer.SELF:
+                case Tape.SELF:
                     code.put(Code.SELF, 0);
                     break;
-                case Lexer.LOBBY:
+                case Tape.LOBBY:
                     code.put(Code.LOBBY, 0);
                     break;
-                case Lexer.NEW:
+                case Tape.NEW:
                     code.put(Code.NEW, 0);
                     break;
-                case Lexer.WORD:
-                    int reached = reach(lexer.word);
+                case Tape.WORD:
+                    int reached = reach(tape.value);
                     need(reached >= 0);
                     code.put(Code.WORD, reached);
                     break;
                 default:
-                    refuse();
+                    need(false);
             }
-            lexer.advance();
+            tape.advance();
         }
 
         private void readLiteral(int depth) {
@@ -1176,8 +1165,8 @@ public final class DelegationShop {
             level++;
             declared[level] = 0;
             int parameters = 0;
-            if (lexer.kind == '|') {
-                lexer.advance();
+            if (tape.kind == '|') {
+                tape.advance();
                 parameters = readParameters();
                 pass('|');
             }
@@ -1293,26 +1282,15 @@ public final class DelegationShop {
         /** Does a change: 0, or the kind of the failure that it is. */
         private int alter(int change, int o, int x, int sort, long worth) {
             int shape = shapeOf[o];
-            switch (change) {
-                case ADD:
-                    return putSlot(o, VALUE_SLOT, x, sort, worth);
-                case GIVE:
-                    return putSlot(o, METHOD_SLOT, x, sort, worth);
-                case LINK:
-                    return parentAt(shape, x) >= 0 ? UNFIT : come(o, PARENT, x, NIL, 0);
-                case DROP:
-                    return go(o, slotAt(shape, x));
-                default:
-                    return go(o, parentAt(shape, x));
+            int at = change >= LINK ? parentAt(shape, x) : slotAt(shape, x);
+            if (change == DROP || change == UNLINK) {
+                return at < 0 ? UNFIT : go(o, at);
             }
-        }
-
-        private int putSlot(int o, int kind, int name, int sort, long worth) {
-            int at = slotAt(shapeOf[o], name);
+            int kind = change == ADD ? VALUE_SLOT : change == GIVE ? METHOD_SLOT : PARENT;
             if (at < 0) {
-                return come(o, kind, name, sort, worth);
+                return come(o, kind, x, sort, worth);
             }
-            if (kinds[shapeOf[o] * ITEMS_MOST + at] != kind) {
+            if (kind == PARENT || kinds[shape * ITEMS_MOST + at] != kind) {
                 return UNFIT;
             }
             hold(o, at, sort, worth);
@@ -1324,7 +1302,10 @@ public final class DelegationShop {
             if (at >= ITEMS_MOST) {
                 return FULL;
             }
-            int shape = madeLonger(shapeOf[o], kind, what);
+            int shape = longer(shapeOf[o], kind, what);
+            if (shape < 0) {
+                shape = makeLonger(shapeOf[o], kind, what);
+            }
             if (shape < 0) {
                 return FULL;
             }
@@ -1334,38 +1315,34 @@ public final class DelegationShop {
         }
 
         private int go(int o, int at) {
-            if (at < 0) {
-                return UNFIT;
-            }
             int old = shapeOf[o];
             int shape = old;
             for (int i = sizes[old]; i > at; i--) {
                 shape = before[shape];
             }
-            if (missing(shape, old, at + 1) > SHAPES_MOST - shapes) {
+            int made = at + 1;
+            while (made < sizes[old]) {
+                int next = longer(shape, kinds[old * ITEMS_MOST + made], whats[old * ITEMS_MOST + made]);
+                if (next < 0) {
+                    break;
+                }
+                shape = next;
+                made++;
+            }
+            if (sizes[old] - made > SHAPES_MOST - shapes) {
                 return FULL;
             }
-            for (int i = at + 1; i < sizes[old] && shape >= 0; i++) {
-                int row = old * ITEMS_MOST + i;
-                shape = madeLonger(shape, kinds[row], whats[row]);
+            for (int i = made; i < sizes[old]; i++) {
+                shape = Math.max(0, makeLonger(shape, kinds[old * ITEMS_MOST + i], whats[old * ITEMS_MOST + i]));
+            }
+            for (int i = at + 1; i < sizes[old]; i++) {
                 hold(o, i - 1, sorts[o * ITEMS_MOST + i], worths[o * ITEMS_MOST + i]);
             }
-            shapeOf[o] = Math.max(0, shape);
+            shapeOf[o] = shape;
             return 0;
         }
 
-        /** How many shapes are not made yet of those that a shape becomes with the items of another from one on. */
-        private int missing(int shape, int other, int from) {
-            int made = shape;
-            for (int i = from; i < sizes[other]; i++) {
-                made = longer(made, kinds[other * ITEMS_MOST + i], whats[other * ITEMS_MOST + i]);
-                if (made < 0) {
-                    return sizes[other] - i;
-                }
-            }
-            return 0;
-        }
-
+        /** The shape with one item more, -1 if it is not made. */
         private int longer(int shape, int kind, int what) {
             int at = sizes[shape];
             if (at >= ITEMS_MOST) {
@@ -1379,11 +1356,10 @@ public final class DelegationShop {
             return -1;
         }
 
-        private int madeLonger(int shape, int kind, int what) {
-            int found = longer(shape, kind, what);
+        private int makeLonger(int shape, int kind, int what) {
             int at = sizes[shape];
-            if (found >= 0 || shapes >= SHAPES_MOST || at >= ITEMS_MOST) {
-                return found;
+            if (shapes >= SHAPES_MOST || at >= ITEMS_MOST) {
+                return -1;
             }
             int made = shapes;
             shapes++;
@@ -1579,28 +1555,20 @@ public final class DelegationShop {
             int own = facts[fact + OWN];
             if (manner == 1 || own == 0 && facts[fact + STATE] <= ONE) {
                 facts[fact + STATE] = ONE;
-                own = 0;
+                facts[fact + OWN] = 1;
+                writeRow(world, firstRow(site), name, shape, start);
             } else if (own < OWN_MOST && facts[fact + STATE] != MANY) {
                 facts[fact + STATE] = SEVERAL;
+                facts[fact + OWN] = own + 1;
+                writeRow(world, firstRow(site) + own, name, shape, start);
             } else {
                 facts[fact + STATE] = MANY;
                 facts[fact + OWN] = 0;
-                toTable(world, name, shape, start);
-                return;
+                if (tableRow(shape, name, start) < 0) {
+                    tableSize = tableSize >= TABLE_MOST ? 1 : tableSize + 1;
+                    writeRow(world, TABLE_FIRST + tableSize - 1, name, shape, start);
+                }
             }
-            writeRow(world, firstRow(site) + own, name, shape, start);
-            facts[fact + OWN] = own + 1;
-        }
-
-        private void toTable(World world, int name, int shape, int start) {
-            if (tableRow(shape, name, start) >= 0) {
-                return;
-            }
-            if (tableSize >= TABLE_MOST) {
-                tableSize = 0;
-            }
-            writeRow(world, TABLE_FIRST + tableSize, name, shape, start);
-            tableSize++;
         }
 
         private void writeRow(World world, int r, int name, int shape, int start) {
@@ -1807,8 +1775,8 @@ public final class DelegationShop {
         }
 
         private void noteWritten(int sort, long worth) {
-            int row = keptWritten() * WRITTEN_ROW;
             if (sums[WRITTEN] < WRITTEN_MOST) {
+                int row = (int) sums[WRITTEN] * WRITTEN_ROW;
                 writtenRows[row] = sort;
                 writtenRows[row + 1] = worth;
             }
@@ -1816,8 +1784,8 @@ public final class DelegationShop {
         }
 
         private void noteBegun(int method, int sort, long worth, int place) {
-            int row = keptBegun() * BEGUN_ROW;
             if (sums[BEGUN] < BEGUN_MOST) {
+                int row = (int) sums[BEGUN] * BEGUN_ROW;
                 begunRows[row] = method;
                 begunRows[row + 1] = sort;
                 begunRows[row + 2] = worth;
@@ -1829,8 +1797,8 @@ public final class DelegationShop {
 
         /** Notes a failure and answers its number. */
         private int noteFailure(int kind, int sort, long worth, int method, int place, int cause) {
-            int row = keptFailures() * FAILURE_ROW;
             if (sums[FAILURES] < FAILURES_MOST) {
+                int row = (int) sums[FAILURES] * FAILURE_ROW;
                 failureRows[row] = kind;
                 failureRows[row + 1] = sort;
                 failureRows[row + 2] = worth;
@@ -1988,14 +1956,14 @@ public final class DelegationShop {
         private static final int NO_BLOCK = 10;
         private static final int METHOD_IN_SET = 11;
 
-        private final World world;
-        private final Sites sites;
-        private final Words words;
-        private final Journal journal;
+        private final World world = new World();
+        private final Sites sites = new Sites();
+        private final Words words = new Words();
+        private final Journal journal = new Journal();
         private final Frames frames = new Frames();
         private final Guards guards = new Guards();
-        private Text text;
-        private Code code;
+        private Text text = new Text();
+        private Code code = text.code;
         private final int[] sorts = new int[STACK_MOST];
         private final long[] worths = new long[STACK_MOST];
         private int size;
@@ -2003,19 +1971,22 @@ public final class DelegationShop {
         private int outcome;
         // The frame on top, while an order is done.
         private int top;
+        // Of the method or block that is to begin: how many arguments, where it was found, whether as a handler.
+        private int newArguments;
+        private int newPlace;
+        private int newHolder;
+        private boolean newHandles;
 
-        private Machine(World world, Sites sites, Words words, Journal journal, Text text) {
-            this.world = world;
-            this.sites = sites;
-            this.words = words;
-            this.journal = journal;
-            this.text = text;
-            this.code = text.code;
-        }
-
-        private int perform(Text itsText, int method, long a, long b) {
+        private void clear(Text itsText) {
             text = itsText;
             code = itsText.code;
+            world.clear();
+            sites.clear();
+            words.clear();
+            journal.clear();
+        }
+
+        private int perform(int method, long a, long b) {
             journal.clearRun();
             guards.clear();
             size = 0;
@@ -2023,7 +1994,11 @@ public final class DelegationShop {
             push(OBJECT, 0);
             push(NUMBER, a);
             push(NUMBER, b);
-            beginMethod(method, 2, 0, -1, false);
+            newArguments = 2;
+            newPlace = 0;
+            newHolder = -1;
+            newHandles = false;
+            beginMethod(method);
             for (int turn = 0; turn < TURNS_MOST && outcome < 0; turn++) {
                 doNextOrder();
                 if (guards.going != Guards.NOTHING) {
@@ -2103,10 +2078,6 @@ public final class DelegationShop {
             guards.goOn(Guards.FAILING, kind, sort, worth, number);
         }
 
-        private void fail(int kind) {
-            fail(kind, NIL, 0);
-        }
-
         private void bringValue(int order, int argument) {
             int room = frames.room[top];
             switch (order) {
@@ -2128,7 +2099,7 @@ public final class DelegationShop {
                 case Code.CLONE:
                     int at = pop();
                     if (sorts[at] != OBJECT) {
-                        fail(NO_OBJECT);
+                        fail(NO_OBJECT, NIL, 0);
                     } else {
                         pushMade(OBJECT, world.cloneOf((int) worths[at]));
                     }
@@ -2144,7 +2115,7 @@ public final class DelegationShop {
 
         private void pushMade(int sort, int number) {
             if (number < 0) {
-                fail(World.FULL);
+                fail(World.FULL, NIL, 0);
             } else {
                 push(sort, number);
             }
@@ -2162,7 +2133,7 @@ public final class DelegationShop {
                 return;
             }
             if (sorts[a] != NUMBER || sorts[b] != NUMBER) {
-                fail(NO_NUMBER);
+                fail(NO_NUMBER, NIL, 0);
                 return;
             }
             long x = worths[a];
@@ -2190,7 +2161,7 @@ public final class DelegationShop {
 
         private void negate(int at) {
             if (sorts[at] != NUMBER) {
-                fail(NO_NUMBER);
+                fail(NO_NUMBER, NIL, 0);
             } else {
                 pushExact(-worths[at], worths[at] != Long.MIN_VALUE);
             }
@@ -2198,7 +2169,7 @@ public final class DelegationShop {
 
         private void divide(int order, long x, long y) {
             if (y == 0) {
-                fail(BY_ZERO);
+                fail(BY_ZERO, NIL, 0);
             } else if (order == Code.REST) {
                 push(NUMBER, y == -1 ? 0 : x % y);
             } else if (y == -1) {
@@ -2212,7 +2183,7 @@ public final class DelegationShop {
             if (fits) {
                 push(NUMBER, result);
             } else {
-                fail(TOO_LARGE);
+                fail(TOO_LARGE, NIL, 0);
             }
         }
 
@@ -2235,7 +2206,10 @@ public final class DelegationShop {
             } else if (order == Code.CALL) {
                 callBlock(argument);
             } else {
-                send(argument >> 3, argument & 7, order == Code.ABOVE ? startAbove() : 0);
+                int method = send(argument >> 3, argument & 7, order == Code.ABOVE ? startAbove() : 0);
+                if (method >= 0) {
+                    beginMethod(method);
+                }
             }
         }
 
@@ -2244,54 +2218,56 @@ public final class DelegationShop {
             return words.foundAt[home] == 0 ? -1 : words.holder[home] + 1;
         }
 
-        private void send(int site, int many, int start) {
-            int at = size - many - 1;
-            if (at < 0) {
-                return;
-            }
+        /** Does a message but for the beginning of its method, which is what it answers; -1: it has none. */
+        private int send(int site, int many, int start) {
+            int at = Math.max(0, size - many - 1);
             int who = world.standsFor(sorts[at], worths[at]);
-            int shape = world.shapeOf[who];
             int name = text.siteName[site];
-            sites.use(world, site, name, shape, start);
+            sites.use(world, site, name, world.shapeOf[who], start);
             if (sites.place < 0) {
-                handle(name, many, who);
-                return;
+                return handle(name, many, who);
             }
-            int holder = sites.place == 0 ? who : sites.holder;
-            int slot = world.slotAt(world.shapeOf[holder], name);
-            int value = holder * ITEMS_MOST + Math.max(slot, 0);
-            if (world.sorts[value] == METHOD) {
-                int method = (int) world.worths[value];
-                if (text.methodParameters[method] != many) {
-                    fail(WRONG_ARGUMENTS);
-                } else {
-                    beginMethod(method, many, sites.place, sites.holder, false);
-                }
-            } else if (many != 0) {
-                fail(WRONG_ARGUMENTS);
-            } else {
+            int value = slotFound(who, name, sites.place, sites.holder);
+            if (world.sorts[value] != METHOD && many == 0) {
                 size = at;
                 push(world.sorts[value], world.worths[value]);
+                return -1;
             }
+            int method = (int) world.worths[value];
+            if (world.sorts[value] != METHOD || text.methodParameters[method] != many) {
+                fail(WRONG_ARGUMENTS, NIL, 0);
+                return -1;
+            }
+            newArguments = many;
+            newPlace = sites.place;
+            newHolder = sites.holder;
+            newHandles = false;
+            return method;
+        }
+
+        /** Which of the values that objects hold a look-up has found. */
+        private int slotFound(int who, int name, int place, int holder) {
+            int o = place == 0 ? who : holder;
+            return o * ITEMS_MOST + Math.max(0, world.slotAt(world.shapeOf[o], name));
         }
 
         /** A message that is not found: the method of the name lost takes it, or it fails. */
-        private void handle(int name, int many, int who) {
+        private int handle(int name, int many, int who) {
             world.lookUp(world.shapeOf[who], LOST, 0);
-            int place = world.place;
-            int holder = place == 0 ? who : world.holder;
-            if (place >= 0 && frames.handlers == 0) {
-                int slot = world.slotAt(world.shapeOf[holder], LOST);
-                int value = holder * ITEMS_MOST + Math.max(slot, 0);
-                if (world.sorts[value] == METHOD && text.methodParameters[(int) world.worths[value]] == 2) {
-                    size -= many;
-                    push(NUMBER, name);
-                    push(NUMBER, many);
-                    beginMethod((int) world.worths[value], 2, place, world.holder, true);
-                    return;
-                }
+            int value = world.place < 0 ? 0 : slotFound(who, LOST, world.place, world.holder);
+            int method = (int) world.worths[value];
+            if (world.place < 0 || frames.handlers > 0 || world.sorts[value] != METHOD || text.methodParameters[method] != 2) {
+                fail(NOT_FOUND, NUMBER, name);
+                return -1;
             }
-            fail(NOT_FOUND, NUMBER, name);
+            size -= many;
+            push(NUMBER, name);
+            push(NUMBER, many);
+            newArguments = 2;
+            newPlace = world.place;
+            newHolder = world.holder;
+            newHandles = true;
+            return method;
         }
 
         private void setSlot(int site) {
@@ -2304,59 +2280,55 @@ public final class DelegationShop {
                 fail(NOT_FOUND, NUMBER, name);
                 return;
             }
-            int holder = sites.place == 0 ? who : sites.holder;
-            int slot = Math.max(0, world.slotAt(world.shapeOf[holder], name));
-            if (world.sorts[holder * ITEMS_MOST + slot] == METHOD) {
-                fail(METHOD_IN_SET);
+            int value = slotFound(who, name, sites.place, sites.holder);
+            if (world.sorts[value] == METHOD) {
+                fail(METHOD_IN_SET, NIL, 0);
             } else {
-                world.hold(holder, slot, sorts[v], worths[v]);
+                world.sorts[value] = sorts[v];
+                world.worths[value] = worths[v];
             }
         }
 
         private void callBlock(int many) {
-            int at = size - many - 1;
-            if (at < 0) {
-                return;
-            }
+            int at = Math.max(0, size - many - 1);
             if (sorts[at] != BLOCK) {
-                fail(NO_BLOCK);
+                fail(NO_BLOCK, NIL, 0);
                 return;
             }
             int block = (int) worths[at];
             int literal = words.blockLiteral[block];
             if (text.literalParameters[literal] != many) {
-                fail(WRONG_ARGUMENTS);
+                fail(WRONG_ARGUMENTS, NIL, 0);
                 return;
             }
-            int room = begin(many, words.blockRoom[block], text.literalMethod[literal], text.literalStart[literal], false);
-            if (room >= 0) {
-                size = at;
-            }
+            newArguments = many;
+            newHandles = false;
+            begin(words.blockRoom[block], text.literalMethod[literal], text.literalStart[literal]);
         }
 
         /** Begins a method whose self and arguments lie on top of the stack. */
-        private void beginMethod(int method, int many, int place, int holder, boolean handler) {
-            int at = size - many - 1;
-            int room = begin(many, -1, method, text.methodStart[method], handler);
-            if (room >= 0 && at >= 0) {
-                words.setMethod(room, sorts[at], worths[at], place, holder);
-                journal.noteBegun(method, sorts[at], worths[at], place);
-                size = at;
+        private void beginMethod(int method) {
+            int at = Math.max(0, size - newArguments - 1);
+            int room = begin(-1, method, text.methodStart[method]);
+            if (room >= 0) {
+                words.setMethod(room, sorts[at], worths[at], newPlace, newHolder);
+                journal.noteBegun(method, sorts[at], worths[at], newPlace);
             }
         }
 
-        /** Begins a method or block with the arguments on top of the stack: its room, or -1 if there is none. */
-        private int begin(int many, int around, int method, int start, boolean handler) {
+        /** Takes what lies on top of the stack for a method or block that begins: its room, -1 if there is none. */
+        private int begin(int around, int method, int start) {
+            int at = Math.max(0, size - newArguments - 1);
             int room = frames.many < FRAMES_MOST ? words.take(frames.many, around) : -1;
             if (room < 0) {
                 outcome = DEPTH;
                 return -1;
             }
-            int first = size - many;
-            for (int i = 0; i < many && first >= 0; i++) {
-                words.keep(room, i, sorts[first + i], worths[first + i]);
+            for (int i = 0; i < newArguments; i++) {
+                words.keep(room, i, sorts[at + 1 + i], worths[at + 1 + i]);
             }
-            frames.push(room, method, start, Math.max(0, first - 1), guards.many, handler);
+            size = at;
+            frames.push(room, method, start, at, guards.many, newHandles);
             return room;
         }
 
@@ -2365,7 +2337,7 @@ public final class DelegationShop {
             int e = pop();
             boolean parents = order == Code.LINK || order == Code.UNLINK;
             if (sorts[e] != OBJECT || parents && sorts[v] != OBJECT) {
-                fail(NO_OBJECT);
+                fail(NO_OBJECT, NIL, 0);
                 return;
             }
             int o = (int) worths[e];
@@ -2387,7 +2359,7 @@ public final class DelegationShop {
                     kind = alter(World.UNLINK, o, (int) worths[v], NIL, 0);
             }
             if (kind != 0) {
-                fail(kind);
+                fail(kind, NIL, 0);
             }
         }
 
@@ -2450,7 +2422,7 @@ public final class DelegationShop {
         private void returnHome(int value) {
             int frame = words.frame[words.home[frames.room[top]]];
             if (frame < 0) {
-                fail(ENDED);
+                fail(ENDED, NIL, 0);
             } else {
                 guards.goOn(Guards.EXITING, 0, sorts[value], worths[value], frame);
             }

@@ -81,6 +81,49 @@ final class Shop {
         same(call, told(what), want.getSimpleName());
     }
 
+    /** What a run comes to: "0 SORT:WORTH" if it answered, "1 KIND SORT:WORTH" for the failure that left it, "2", "3". */
+    static String outcome(DelegationShop shop, int m, long a, long b) {
+        int outcome = shop.run(m, a, b);
+        if (outcome == 0) {
+            return "0 " + shop.latest(0) + ":" + shop.latest(1);
+        }
+        if (outcome == 1) {
+            int f = (int) shop.latest(3);
+            return "1 " + shop.failure(f, 0) + " " + shop.failure(f, 1) + ":" + shop.failure(f, 2);
+        }
+        return String.valueOf(outcome);
+    }
+
+    /** The outcome of running statements alone, in the method go(a, b) behind some helping methods. */
+    static String doing(String statements, long a, long b) {
+        return doing("", 0, statements, a, b);
+    }
+
+    static String doing(String methods, int many, String statements, long a, long b) {
+        String told = "";
+        for (int m = 0; m <= 2; m++) {
+            DelegationShop shop = of(m, methods + " method go(a,b){" + statements + "}");
+            String now = outcome(shop, many, a, b) + writtenOf(shop);
+            same("manner " + m + " of " + statements, now, m == 0 ? now : told);
+            due("astray of " + statements, shop.astray(), 0);
+            told = now;
+        }
+        return told;
+    }
+
+    /** The values written, as " SORT:WORTH" each. */
+    static String writtenOf(DelegationShop shop) {
+        StringBuilder all = new StringBuilder();
+        for (int i = 0; i < Math.min(300, shop.latest(5)); i++) {
+            all.append(" ").append(shop.written(i, 0)).append(":").append(shop.written(i, 1));
+        }
+        return all.toString();
+    }
+
+    static String repeat(String piece, int times) {
+        return piece.repeat(times);
+    }
+
     static void finish() {
         System.out.println(asked + " answers, " + wrong + " wrong");
         if (wrong > 0) {
