@@ -322,7 +322,19 @@ public final class ObjectsTest {
         Shop.due("round about", chain.way(4, 196), 4);
         chain.change(199, 0, 1, 0);
         Shop.due("look", chain.look(4, 1, 0), 195);
-        Shop.due("look", chain.look(199, 1, -1), 196);
+        chain.change(199, 4, 4, 0);
+        for (int o = 0; o < 4; o++) {
+            chain.change(o == 0 ? 199 : o - 1, 3, o, 0);
+        }
+        chain.change(3, 3, 4, 0);
+        Shop.due("a way of all objects", chain.way(4, 199), 3);
+        Shop.due("its last", chain.way(4, 200), 4);
+        Shop.due("none behind", chain.way(4, 201), -1);
+        chain.change(3, 0, 0, 0);
+        Shop.due("look", chain.look(4, 0, 0), 199);
+        Shop.due("look behind it", chain.look(4, 0, 4), -1);
+        Shop.due("look behind object 2", chain.look(4, 0, 3), 199);
+        Shop.due("look", chain.look(199, 1, -1), 200);
     }
 
     private static void looks() {

@@ -83,6 +83,8 @@ public final class RowsTest {
         row("begun(1)", new long[] {0, 2, 4, 2}, what -> shop.begun(1, (int) what));
         row("begun(2)", new long[] {0, 2, 0, 0}, what -> shop.begun(2, (int) what));
         row("begun(3)", new long[] {1, 2, 4, 2}, what -> shop.begun(3, (int) what));
+        Shop.due("run", shop.run(2, 5, 6), 0);
+        row("begun(0) of another run", new long[] {2, 2, 0, 0}, what -> shop.begun(0, (int) what));
         for (int i : new int[] {-1, 4, Integer.MIN_VALUE, Integer.MAX_VALUE}) {
             Shop.throwing("begun(" + i + ")", IndexOutOfBoundsException.class, () -> shop.begun(i, 9));
         }

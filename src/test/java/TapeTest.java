@@ -7,6 +7,9 @@ public final class TapeTest {
         feeding();
         cutting();
         loading();
+        loadingAgain();
+        whatWasCutIsNoToken();
+        fullTapes();
         Shop.finish();
     }
 
@@ -75,5 +78,61 @@ public final class TapeTest {
         Shop.due("calls", shop.calls(0), 0);
         Shop.due("voids", shop.voids(), 0);
         Shop.due("shape of the lobby", shop.shape(0), 0);
+    }
+
+    private static void loadingAgain() {
+        DelegationShop shop = new DelegationShop();
+        String two = "method k(){} method m(a,b){self.p; set self,q=[guard{1;}on 0 e{}]; fail 20;}";
+        for (int n = 0; n < 4; n++) {
+            Shop.due("load()", Shop.load(shop, PLAIN), 1);
+            Shop.due("counts", shop.count(1) * 100 + shop.count(2) * 10 + shop.count(3), 100);
+            Shop.due("run", shop.run(0, 4, 5), 0);
+            Shop.due("answer", shop.latest(1), 9);
+            Shop.due("load() of a fault", Shop.load(shop, two + "method k(){}"), -1 - two.length() - 7);
+            Shop.due("counts", shop.count(1) * 100 + shop.count(2) * 10 + shop.count(3), 100);
+            Shop.due("run", shop.run(0, 4, 6), 0);
+            Shop.due("answer", shop.latest(1), 10);
+            Shop.due("load()", Shop.load(shop, two), 2);
+            Shop.due("counts", shop.count(1) * 100 + shop.count(2) * 10 + shop.count(3), 321);
+            Shop.due("run", shop.run(1, 4, 6), 1);
+            Shop.due("kind", shop.failure(0, 0), 1);
+            shop.change(0, 0, 1, 0);
+            shop.change(0, 0, 2, 0);
+            Shop.due("run", shop.run(1, 4, 6), 1);
+            Shop.due("kind", shop.failure(0, 0), 20);
+            Shop.due("blocks", shop.count(6), 1);
+        }
+    }
+
+    /** The bytes behind the end of the tape are still in the shop, but not on the tape. */
+    private static void whatWasCutIsNoToken() {
+        String[][] cut = {{"method m(){123456789", "0;}"}, {"method m(){self.abcdefgh", "i;}"}, {"method m(){self=", "=1;}"}, {"method m(){retur", "n 1;}"}};
+        int[] fault = {20, 24, 15, 11};
+        for (int n = 0; n < cut.length; n++) {
+            DelegationShop shop = new DelegationShop();
+            Shop.feed(shop, cut[n][0] + cut[n][1]);
+            shop.end(cut[n][0].length());
+            Shop.due("load() of " + cut[n][0], shop.load(), -1 - fault[n]);
+        }
+        DelegationShop shop = new DelegationShop();
+        Shop.feed(shop, PLAIN + "1");
+        shop.end(PLAIN.length());
+        Shop.due("load()", shop.load(), 1);
+    }
+
+    private static void fullTapes() {
+        Shop.due("fault of signs alone", Shop.fault(";".repeat(6000)), 0);
+        Shop.due("fault of blanks", Shop.fault(" ".repeat(6000)), 6000);
+        Shop.due("fault of minuses", Shop.fault("method m(){" + "-".repeat(5989)), 6000);
+        String head = "method m(a,b){";
+        DelegationShop shop = Shop.of(2, head + "1;".repeat(2992) + " }");
+        Shop.due("run", shop.run(0, 1, 2), 0);
+        Shop.due("steps", shop.latest(2), 2992);
+        DelegationShop minus = Shop.of(2, head + "answer " + "-".repeat(5976) + "a;}");
+        Shop.due("run", minus.run(0, 1, 2), 0);
+        Shop.due("answer", minus.latest(1), 1);
+        DelegationShop blocks = Shop.of(2, head + "[];".repeat(60) + "-1;".repeat(1900) + "answer a;}");
+        Shop.due("run", blocks.run(0, 1, 2), 0);
+        Shop.due("answer", blocks.latest(1), 1);
     }
 }

@@ -257,6 +257,13 @@ public final class TextTest {
         body("[".repeat(19) + "a.n@(b);" + "];".repeat(19));
         body("[".repeat(18) + "clone(a);" + "];".repeat(18));
         body("[".repeat(19) + "clone@(a);" + "];".repeat(19));
+        body("a.n(".repeat(19) + "a" + ")".repeat(19) + ";");
+        body("a.n(".repeat(19) + "a.n@(a" + ")".repeat(20) + ";");
+        body("a!(1,".repeat(19) + "a" + ")".repeat(19) + ";");
+        body("a!(1,".repeat(19) + "a!@(a" + ")".repeat(20) + ";");
+        body("clone(".repeat(19) + "a" + ")".repeat(19) + ";");
+        body("clone(".repeat(19) + "above.n@(a" + ")".repeat(20) + ";");
+        body("while a{if b{}else{guard{}on 0 e{[|x| x.n((a),b)!(@c);];}}}");
         body("guard{}ensure{" + "(".repeat(18) + "a" + ")".repeat(18) + ";}");
     }
 
