@@ -398,7 +398,8 @@ public final class DelegationShop {
                 }
             }
             addToken(END, length, 0);
-            standAt(0);
+            at = -1;
+            advance();
         }
 
         private void addToken(int itsKind, int itsPlace, long itsValue) {
@@ -451,17 +452,13 @@ public final class DelegationShop {
             return i + 1;
         }
 
-        private void standAt(int token) {
-            if (token < tokens) {
-                at = token;
-                kind = kinds[token];
-                place = places[token];
-                value = values[token];
-            }
-        }
-
         private void advance() {
-            standAt(at + 1);
+            if (at + 1 < tokens) {
+                at++;
+                kind = kinds[at];
+                place = places[at];
+                value = values[at];
+            }
         }
 
         /** Whether the sign = (and not ==) stands behind the token that stands here. */

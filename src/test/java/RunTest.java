@@ -20,6 +20,8 @@ public final class RunTest {
         steps();
         depth();
         full();
+        manyCalls();
+        runsBehindRuns();
         Shop.finish();
     }
 
@@ -387,5 +389,37 @@ public final class RunTest {
         due(twelve + "give lobby,x,go;", "1 8 0:0");
         due(twelve + "give lobby,na,go;", "1 7 0:0");
         due(twelve + "drop lobby,na; add lobby,x=1; write lobby.nl; write lobby.x;", "0 0:0 1:11 1:1");
+    }
+
+    private static void manyCalls() {
+        DelegationShop shop = Shop.of(2, "method k(n){answer n;} method m(a,b){give lobby,k,k; var i=0; while i<a {b=b+self.k(i); i=i+1;} answer b;}"
+            + "method f(a,b){var f=[|x| answer x;]; var i=0; while i<a {b=b+f!(i); i=i+1;} answer b;}");
+        for (int n = 0; n < 4; n++) {
+            Shop.same("many calls of a method", Shop.outcome(shop, 1, 700, 0), "0 1:" + 700 * 699 / 2);
+            Shop.due("begun", shop.latest(6), 701);
+            Shop.same("many calls of a block", Shop.outcome(shop, 2, 700, 0), "0 1:" + 700 * 699 / 2);
+        }
+        Shop.due("calls", shop.calls(0), 2800);
+    }
+
+    /** Nothing of a run that was left in the midst of its exps and guards is in the way of the next. */
+    private static void runsBehindRuns() {
+        String deep = "1+(".repeat(15) + "self.down(n-1)" + ")".repeat(15);
+        DelegationShop shop = Shop.of(1, "method down(n){if n==0 {fail 20;} if n==100 {while 1 {}} if n<0 {answer 0;} guard{answer " + deep
+            + ";} on 21 e {write e;} on 0 f {fail 20,f;} ensure {f=1;}} method m(a,b){give lobby,down,down; answer self.down(a);}"
+            + " method plain(n){if n==200 {answer 5;} answer " + deep.replace("down", "plain") + ";} method p(a,b){give lobby,plain,plain; answer self.plain(a);}");
+        for (int n = 0; n < 20; n++) {
+            Shop.same("a failure in the midst", Shop.outcome(shop, 1, 57, 0), "1 20 0:0");
+            Shop.same("too deep in the midst", Shop.outcome(shop, 1, 170, 0), "3");
+            Shop.same("spent in the midst", Shop.outcome(shop, 1, 130, 0), "2");
+            Shop.same("a sum that is too deep", Shop.outcome(shop, 3, 50, 0), "3");
+            Shop.same("a sum", Shop.outcome(shop, 3, 250, 0), "0 1:755");
+        }
+        DelegationShop guarded = Shop.of(2, "method m(a,b){guard{while a {}} on 0 e{write 1;} ensure{write 2;}} method k(a,b){fail 33;} method p(a,b){guard{self.m(1,2);}on 0 e{} give lobby,m,m; self.m(1,2);}");
+        Shop.same("spent in a guard", Shop.outcome(guarded, 0, 1, 0), "2");
+        Shop.same("a failure behind it", Shop.outcome(guarded, 1, 1, 0), "1 33 0:0");
+        Shop.same("a guard behind it", Shop.outcome(guarded, 0, 0, 0) + Shop.writtenOf(guarded), "0 0:0 1:2");
+        Shop.same("spent in a guard of a call", Shop.outcome(guarded, 2, 1, 0), "2");
+        Shop.same("a failure behind it", Shop.outcome(guarded, 1, 1, 0), "1 33 0:0");
     }
 }

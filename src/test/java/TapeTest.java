@@ -89,6 +89,7 @@ public final class TapeTest {
             Shop.due("run", shop.run(0, 4, 5), 0);
             Shop.due("answer", shop.latest(1), 9);
             Shop.due("load() of a fault", Shop.load(shop, two + "method k(){}"), -1 - two.length() - 7);
+            Shop.due("load() of a fault within a literal", Shop.load(shop, "method m(){[|a,b| [|a,b,c,d| ?"), -1 - 29);
             Shop.due("counts", shop.count(1) * 100 + shop.count(2) * 10 + shop.count(3), 100);
             Shop.due("run", shop.run(0, 4, 6), 0);
             Shop.due("answer", shop.latest(1), 10);
