@@ -2137,13 +2137,13 @@ public final class DelegationShop {
             long y = worths[b];
             switch (order) {
                 case Code.PLUS:
-                    pushExact(x + y, ((x ^ (x + y)) & (y ^ (x + y))) >= 0);
+                    pushSum(x + y, ((x ^ (x + y)) & (y ^ (x + y))) >= 0);
                     return;
                 case Code.MINUS:
-                    pushExact(x - y, ((x ^ y) & (x ^ (x - y))) >= 0);
+                    pushSum(x - y, ((x ^ y) & (x ^ (x - y))) >= 0);
                     return;
                 case Code.TIMES:
-                    pushExact(x * y, timesFits(x, y));
+                    pushSum(x * y, timesFits(x, y));
                     return;
                 case Code.LESS:
                     push(NUMBER, x < y ? 1 : 0);
@@ -2160,7 +2160,7 @@ public final class DelegationShop {
             if (sorts[at] != NUMBER) {
                 fail(NO_NUMBER, NIL, 0);
             } else {
-                pushExact(-worths[at], worths[at] != Long.MIN_VALUE);
+                pushSum(-worths[at], worths[at] != Long.MIN_VALUE);
             }
         }
 
@@ -2170,13 +2170,13 @@ public final class DelegationShop {
             } else if (order == Code.REST) {
                 push(NUMBER, y == -1 ? 0 : x % y);
             } else if (y == -1) {
-                pushExact(-x, x != Long.MIN_VALUE);
+                pushSum(-x, x != Long.MIN_VALUE);
             } else {
                 push(NUMBER, x / y);
             }
         }
 
-        private void pushExact(long result, boolean fits) {
+        private void pushSum(long result, boolean fits) {
             if (fits) {
                 push(NUMBER, result);
             } else {
