@@ -146,8 +146,8 @@ public final class RunTest {
         due("var i=0; while i<2 {if i==1 {write i;} var x=5; i=i+1;}", "0 0:0 1:1");
         due("var f=[|x| var y=x; if x {y=y+1;} answer y;]; write f!(1); write f!(0); write f!(nil);", "0 0:0 1:2 1:0 0:0");
         due("var f=[|x| if x {var y=5;} answer 1;]; f!(1); var g=[var z=1;]; answer g!();", "0 0:0");
-        due("method two(n){if n {var x=9; answer x;} if 0 {var y=1;} answer nil;} ", 1,
-            "give lobby,two,two; write self.two(1); write self.two(0);", "0 0:0 1:9 0:0");
+        due("method two(n){if n {var x=9; answer x;} answer x;} ", 1,
+            "give lobby,two,two; write self.two(1); write self.two(0); write self.two(2); write self.two(0)==nil;", "0 0:0 1:9 0:0 1:9 1:1");
     }
 
     private static void blocks() {
