@@ -6,6 +6,8 @@ public final class FuzzTest {
         "-", "*", "/", "%", " ", "\n", "\t", "?", "A", "\u00e9", "a", "nab", "nbb", "ocb", "abcdefgh", "abcdefghi", "7",
         "123456789", "1234567890", "e{}", "|x|", "a.b(c)", "x=1;", ".p", ".p(1,2)", "!()", "20", "100"};
     private static boolean ended = false;
+    // some texts after one another come to the same shop
+    private static Twins twins = null;
     private static int compared = 0;
     private static int faults = 0;
     private static final long[] outcomes = new long[4];
@@ -41,7 +43,9 @@ public final class FuzzTest {
     private static boolean one(int seed) {
         RandomText random = new RandomText(seed);
         String text = random.text();
-        Twins twins = new Twins("seed " + seed);
+        if (seed % 4 == 0 || twins == null) {
+            twins = new Twins("seeds from " + seed);
+        }
         twins.manner(seed % 3 == 0 ? 2 : random.below(3));
         twins.load(text.substring(0, Math.min(6000, text.length())));
         compared++;

@@ -241,6 +241,8 @@ public final class RunTest {
             "0 1:5 1:1 1:3");
         due(lost, 1, "give lobby,lost,lost; set lobby,n=1;", "1 1 1:1");
         due(lost, 1, "give lobby,lost,lost; answer lobby.lost(5,6);", "0 2:0 1:5 1:6");
+        due("method lost(n,k){answer above.n;} ", 1, "var o=new; var p=new; var q=new; link o,p; link p,q; link o,q; add o,n=1; add p,n=2; add q,n=3;"
+            + " give p,lost,lost; write o.x; give o,lost,lost; write o.x; drop p,n; write o.y(1);", "0 0:0 1:3 1:2 1:3");
         // one that was begun by its own name is no handler
         due("method lost(n,k){if n {answer self.foo;} answer 9;} ", 1, "give lobby,lost,lost; self.lost(1,1);", "1 1 1:1");
         due("method lost(n,k){if k {answer self.foo;} answer n;} ", 1, "give lobby,lost,lost; write self.lost(0,1); self.bar(1);",

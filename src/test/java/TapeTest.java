@@ -129,6 +129,11 @@ public final class TapeTest {
         DelegationShop shop = Shop.of(2, head + "1;".repeat(2992) + " }");
         Shop.due("run", shop.run(0, 1, 2), 0);
         Shop.due("steps", shop.latest(2), 2992);
+        for (int n = 0; n < 6; n++) {
+            Shop.due("load() of a long text", Shop.load(shop, head + "1;".repeat(2980) + "answer " + n + ";}"), 1);
+            Shop.due("run", shop.run(0, 1, 2), 0);
+            Shop.due("answer", shop.latest(1), n);
+        }
         DelegationShop minus = Shop.of(2, head + "answer " + "-".repeat(5976) + "a;}");
         Shop.due("run", minus.run(0, 1, 2), 0);
         Shop.due("answer", minus.latest(1), 1);
