@@ -1238,17 +1238,17 @@ public final class DelegationShop {
             return copy;
         }
 
+        /** The object that a value is, -1 if it is none. */
+        private int objectOf(int sort, long worth) {
+            return sort == OBJECT && worth >= 0 && worth < objects ? (int) worth : -1;
+        }
+
         private int standsFor(int sort, long worth) {
-            switch (sort) {
-                case NUMBER:
-                    return 1;
-                case BLOCK:
-                    return 2;
-                case OBJECT:
-                    return (int) worth;
-                default:
-                    return 3;
+            int o = objectOf(sort, worth);
+            if (o >= 0) {
+                return o;
             }
+            return sort == NUMBER ? 1 : sort == BLOCK ? 2 : 3;
         }
 
         private int slotAt(int shape, int name) {
@@ -1703,6 +1703,11 @@ public final class DelegationShop {
             return blocks - 1;
         }
 
+        /** The block that a value is, -1 if it is none. */
+        private int blockOf(int sort, long worth) {
+            return sort == BLOCK && worth >= 0 && worth < blocks ? (int) worth : -1;
+        }
+
         /** Where a word lies that the compiler told by Compiler.reach. */
         private int wordAt(int room, int reached) {
             int at = room;
@@ -2095,10 +2100,11 @@ public final class DelegationShop {
                     return;
                 case Code.CLONE:
                     int at = pop();
-                    if (sorts[at] != OBJECT) {
+                    int o = world.objectOf(sorts[at], worths[at]);
+                    if (o < 0) {
                         fail(NO_OBJECT, NIL, 0);
                     } else {
-                        pushMade(OBJECT, world.cloneOf((int) worths[at]));
+                        pushMade(OBJECT, world.cloneOf(o));
                     }
                     return;
                 case Code.WORD:
@@ -2225,13 +2231,13 @@ public final class DelegationShop {
                 return handle(name, many, who);
             }
             int value = slotFound(who, name, sites.place, sites.holder);
-            if (world.sorts[value] != METHOD && many == 0) {
+            int method = methodIn(value);
+            if (method < 0 && many == 0) {
                 size = at;
                 push(world.sorts[value], world.worths[value]);
                 return -1;
             }
-            int method = (int) world.worths[value];
-            if (world.sorts[value] != METHOD || text.methodParameters[method] != many) {
+            if (method < 0 || text.methodParameters[method] != many) {
                 fail(WRONG_ARGUMENTS, NIL, 0);
                 return -1;
             }
@@ -2248,12 +2254,17 @@ public final class DelegationShop {
             return o * ITEMS_MOST + Math.max(0, world.slotAt(world.shapeOf[o], name));
         }
 
+        /** The method that a slot holds, -1 if it holds a value. */
+        private int methodIn(int value) {
+            long worth = world.worths[value];
+            return world.sorts[value] == METHOD && worth >= 0 && worth < text.methods ? (int) worth : -1;
+        }
+
         /** A message that is not found: the method of the name lost takes it, or it fails. */
         private int handle(int name, int many, int who) {
             world.lookUp(world.shapeOf[who], LOST, 0);
-            int value = world.place < 0 ? 0 : slotFound(who, LOST, world.place, world.holder);
-            int method = (int) world.worths[value];
-            if (world.place < 0 || frames.handlers > 0 || world.sorts[value] != METHOD || text.methodParameters[method] != 2) {
+            int method = world.place < 0 ? -1 : methodIn(slotFound(who, LOST, world.place, world.holder));
+            if (method < 0 || frames.handlers > 0 || text.methodParameters[method] != 2) {
                 fail(NOT_FOUND, NUMBER, name);
                 return -1;
             }
@@ -2278,7 +2289,7 @@ public final class DelegationShop {
                 return;
             }
             int value = slotFound(who, name, sites.place, sites.holder);
-            if (world.sorts[value] == METHOD) {
+            if (methodIn(value) >= 0) {
                 fail(METHOD_IN_SET, NIL, 0);
             } else {
                 world.sorts[value] = sorts[v];
@@ -2288,11 +2299,11 @@ public final class DelegationShop {
 
         private void callBlock(int many) {
             int at = Math.max(0, size - many - 1);
-            if (sorts[at] != BLOCK) {
+            int block = words.blockOf(sorts[at], worths[at]);
+            if (block < 0) {
                 fail(NO_BLOCK, NIL, 0);
                 return;
             }
-            int block = (int) worths[at];
             int literal = words.blockLiteral[block];
             if (text.literalParameters[literal] != many) {
                 fail(WRONG_ARGUMENTS, NIL, 0);
@@ -2330,14 +2341,15 @@ public final class DelegationShop {
         }
 
         private void doChange(int order, int argument) {
+            boolean parents = order == Code.LINK || order == Code.UNLINK;
             int v = order == Code.GIVE || order == Code.DROP ? 0 : pop();
             int e = pop();
-            boolean parents = order == Code.LINK || order == Code.UNLINK;
-            if (sorts[e] != OBJECT || parents && sorts[v] != OBJECT) {
+            int o = world.objectOf(sorts[e], worths[e]);
+            int parent = parents ? world.objectOf(sorts[v], worths[v]) : 0;
+            if (o < 0 || parent < 0) {
                 fail(NO_OBJECT, NIL, 0);
                 return;
             }
-            int o = (int) worths[e];
             int kind;
             switch (order) {
                 case Code.ADD:
@@ -2350,10 +2362,10 @@ public final class DelegationShop {
                     kind = alter(World.DROP, o, argument, NIL, 0);
                     break;
                 case Code.LINK:
-                    kind = alter(World.LINK, o, (int) worths[v], NIL, 0);
+                    kind = alter(World.LINK, o, parent, NIL, 0);
                     break;
                 default:
-                    kind = alter(World.UNLINK, o, (int) worths[v], NIL, 0);
+                    kind = alter(World.UNLINK, o, parent, NIL, 0);
             }
             if (kind != 0) {
                 fail(kind, NIL, 0);
