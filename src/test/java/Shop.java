@@ -77,6 +77,12 @@ final class Shop {
         }
     }
 
+    /** The number that a call answers, 0 if it throws. */
+    static int number(LongSupplier call) {
+        String told = told(call);
+        return Character.isLetter(told.charAt(0)) ? 0 : (int) Long.parseLong(told);
+    }
+
     static void throwing(String call, Class<? extends RuntimeException> want, LongSupplier what) {
         same(call, told(what), want.getSimpleName());
     }
