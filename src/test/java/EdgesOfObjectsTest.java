@@ -157,6 +157,7 @@ public final class EdgesOfObjectsTest {
             shop.change(0, 0, x, x);
         }
         shop.change(1, 3, 3, 0);
+        Shop.due("the way of a full row without parents", shop.way(0, 1), -1);
         Shop.due("unlink of a parent that another has", shop.change(0, 4, 3, 0), 7);
         Shop.due("link of it as the 13th", shop.change(0, 3, 3, 0), 8);
         shop.change(2, 0, 13, 0);

@@ -253,6 +253,12 @@ public final class EdgesOfRunsTest {
                 Shop.same("run", Shop.outcome(shop, 1, 9, 5) + Shop.writtenOf(shop), "0 1:5 1:1 1:1 0:0 0:0 1:9 0:0");
             }
         }
+        DelegationShop third = Shop.of(1, "method m(a,b){if b {var x=b;} answer x;} method junk(a,b){answer (1-(2-(3-(4-(5-self.zz)))));}");
+        for (int n = 0; n < 3; n++) {
+            Shop.due("junk", third.run(1, 77, 78), 1);
+            Shop.same("the word behind the parameters", Shop.outcome(third, 0, 9, 0), "0 0:0");
+            Shop.same("the word behind the parameters", Shop.outcome(third, 0, 9, 8), "0 1:8");
+        }
         // also in a handler, which is given two arguments
         due("method lost(n,k){if k==9 {var x=1;} answer x;} ", 1, "give self,lost,lost; write 100==self.foo(1,2); answer self.foo(3);", "0 0:0 1:0");
     }

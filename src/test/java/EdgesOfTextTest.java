@@ -472,10 +472,19 @@ public final class EdgesOfTextTest {
             Shop.due("load()", Shop.load(shop, text.toString()), 39);
             Shop.same("run", Shop.outcome(shop, 38, n, 0) + Shop.writtenOf(shop), "0 1:" + (n + 1) + " 1:2");
         }
-        String small = HEAD + "guard{fail 33,a;}" + "on 33 e{answer e+1;}ensure{write 2;}}";
+        String small = HEAD + "guard{fail 33,a;}on 33 e{answer e+1;}ensure{write 2;}}";
+        String other = HEAD + "guard{fail 33,a;}on 33 e{answer -e;}ensure{write 2;}}";
         for (int n = 0; n < 90; n++) {
-            Shop.due("load()", Shop.load(shop, n % 2 == 0 ? small : small.replace("answer e", "answer -e")), 1);
-            Shop.same("run", Shop.outcome(shop, 0, 5, 0), n % 2 == 0 ? "0 1:6" : "0 1:-4");
+            Shop.due("load()", Shop.load(shop, n % 2 == 0 ? small : other), 1);
+            Shop.same("run", Shop.outcome(shop, 0, 5, 0), n % 2 == 0 ? "0 1:6" : "0 1:-5");
         }
+        // texts with a fault at their end are read as far as that
+        DelegationShop faulty = new DelegationShop();
+        for (int length : new int[] {390, 190}) {
+            String guards = HEAD + "guard{}ensure{}".repeat(length);
+            Shop.due("load()", Shop.load(faulty, guards), -1 - guards.length());
+        }
+        Shop.due("load()", Shop.load(faulty, HEAD + "guard{guard{fail 33,a;}ensure{write 1;}}on 33 e{answer e+1;}ensure{write 2;}}"), 1);
+        Shop.same("run", Shop.outcome(faulty, 0, 5, 0) + Shop.writtenOf(faulty), "0 1:6 1:1 1:2");
     }
 }
