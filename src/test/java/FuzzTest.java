@@ -16,7 +16,7 @@ public final class FuzzTest {
 
     public static void main(String[] args) throws InterruptedException {
         int from = args.length > 0 ? Integer.parseInt(args[0]) : 1;
-        int many = args.length > 1 ? Integer.parseInt(args[1]) : 60;
+        int many = args.length > 1 ? Integer.parseInt(args[1]) : 250;
         // the reference walks its tree by recursion
         Thread thread = new Thread(null, () -> fuzz(from, many), "fuzz", 1L << 28);
         thread.start();
