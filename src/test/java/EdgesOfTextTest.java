@@ -486,5 +486,16 @@ public final class EdgesOfTextTest {
         }
         Shop.due("load()", Shop.load(faulty, HEAD + "guard{guard{fail 33,a;}ensure{write 1;}}on 33 e{answer e+1;}ensure{write 2;}}"), 1);
         Shop.same("run", Shop.outcome(faulty, 0, 5, 0) + Shop.writtenOf(faulty), "0 1:6 1:1 1:2");
+        StringBuilder literal = new StringBuilder("[guard{}");
+        for (int i = 0; i < 12; i++) {
+            literal.append("on 0 ").append((char) ('a' + i)).append("{}");
+        }
+        DelegationShop ons = new DelegationShop();
+        for (int length : new int[] {56, 29}) {
+            String literals = HEAD + (literal + "];").repeat(length);
+            Shop.due("load()", Shop.load(ons, literals), -1 - literals.length());
+        }
+        Shop.due("load()", Shop.load(ons, small), 1);
+        Shop.same("run", Shop.outcome(ons, 0, 5, 0) + Shop.writtenOf(ons), "0 1:6 1:2");
     }
 }
