@@ -1943,6 +1943,9 @@ public final class DelegationShop {
         // Each pass through a loop and each call takes a step, so the orders of a run are fewer than this by far.
         private static final int TURNS_MOST = 100000000;
 
+        // the one number of 64 bits whose negative is none
+        private static final long LEAST = 1L << 63;
+
         private static final int ANSWERED = 0;
         private static final int FAILED = 1;
         private static final int SPENT = 2;
@@ -2166,7 +2169,7 @@ public final class DelegationShop {
             if (sorts[at] != NUMBER) {
                 fail(NO_NUMBER, NIL, 0);
             } else {
-                pushSum(-worths[at], worths[at] != Long.MIN_VALUE);
+                pushSum(-worths[at], worths[at] != LEAST);
             }
         }
 
@@ -2176,7 +2179,7 @@ public final class DelegationShop {
             } else if (order == Code.REST) {
                 push(NUMBER, y == -1 ? 0 : x % y);
             } else if (y == -1) {
-                pushSum(-x, x != Long.MIN_VALUE);
+                pushSum(-x, x != LEAST);
             } else {
                 push(NUMBER, x / y);
             }
@@ -2195,7 +2198,7 @@ public final class DelegationShop {
                 return true;
             }
             if (x == -1 || y == -1) {
-                return x != Long.MIN_VALUE && y != Long.MIN_VALUE;
+                return x != LEAST && y != LEAST;
             }
             return x * y / y == x;
         }

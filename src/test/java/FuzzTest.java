@@ -10,6 +10,7 @@ public final class FuzzTest {
     private static Twins twins = null;
     private static int compared = 0;
     private static int faults = 0;
+    private static long causes = 0;
     private static final long[] outcomes = new long[4];
     private static final long[] kinds = new long[100];
     private static final long[] states = new long[4];
@@ -30,6 +31,9 @@ public final class FuzzTest {
             if (!one(seed)) {
                 System.out.println("seed " + seed + " differs");
             }
+            if (!control(seed)) {
+                System.out.println("seed " + seed + " differs in its text of guards and blocks");
+            }
             for (int n = 0; n < 20; n++) {
                 spoil(seed * 100 + n);
             }
@@ -37,6 +41,7 @@ public final class FuzzTest {
         ended = true;
         System.out.println(compared + " texts compared, " + faults + " with a fault");
         System.out.println("outcomes " + java.util.Arrays.toString(outcomes) + ", states " + java.util.Arrays.toString(states));
+        System.out.println("failures with a cause " + causes);
         System.out.println("kinds of failures " + java.util.Arrays.toString(java.util.Arrays.copyOf(kinds, 24)));
     }
 
@@ -64,6 +69,28 @@ public final class FuzzTest {
             states[twins.reference.site(i, 2)]++;
         }
         Shop.due("seed " + seed + ": differences", twins.wrong, 0);
+        return twins.wrong == 0;
+    }
+
+    /** Guards, blocks, returns and failures within one another. */
+    private static boolean control(int seed) {
+        RandomText random = new RandomText(seed + 5555555L);
+        String text = new RandomControl(random).text();
+        Twins twins = new Twins("guards and blocks " + seed);
+        twins.manner(random.below(3));
+        twins.load(text.substring(0, Math.min(6000, text.length())));
+        compared++;
+        if (Shop.told(() -> twins.reference.count(0)).startsWith("Ill")) {
+            faults++;
+            return twins.wrong == 0;
+        }
+        int methods = twins.reference.count(0);
+        twins.run(methods - 1, 0, 0);
+        for (int n = 0; n < 8 && twins.wrong == 0; n++) {
+            twins.run(n == 5 ? methods - 1 : random.below(methods - 1), random.below(4), random.below(4));
+            note(twins);
+            twins.compare();
+        }
         return twins.wrong == 0;
     }
 
@@ -118,6 +145,7 @@ public final class FuzzTest {
         outcomes[twins.outcome]++;
         for (long[] f : twins.reference.failures) {
             kinds[(int) f[0]]++;
+            causes += f[5] >= 0 ? 1 : 0;
         }
     }
 }

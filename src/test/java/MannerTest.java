@@ -6,7 +6,7 @@ public final class MannerTest {
         withoutText();
         forgetting(true);
         forgetting(false);
-        MannersAlike.main();
+        MannersAlike.compare();
         Shop.finish();
     }
 

@@ -3,7 +3,7 @@ final class MannersAlike {
     private MannersAlike() {
     }
 
-    static void main() {
+    static void compare() {
         for (int seed = 5000; seed < 5030; seed++) {
             String text = new RandomText(seed).text();
             if (text.length() > 6000 || Shop.fault(text) >= 0) {
